@@ -335,6 +335,12 @@ public final class PromisesTest {
         Check.due("12: the deepest part", x.depth(), 5);
         x.assume(-3);
         Check.due("12: FALSE", x.depth(), 0);
+        // 1 must hold, then 2, and so on: TRUE is reached below the tenth decision alone
+        CnfCompiler chain = with(c(1), c(-1, 2), c(-2, 3), c(-3, 4), c(-4, 5), c(-5, 6), c(-6, 7), c(-7, 8),
+                c(-8, 9), c(-9, 10));
+        Check.due("12: ten decisions one below the other", chain.depth(), 10);
+        Check.due("12: with TRUE and FALSE", chain.nodes(), 12);
+        Check.due("12: one model", chain.models(), 1);
         // 1 true leaves {2 3}, of depth 2; 1 false leaves {2}{2 3}{3}: 2 true leaves {3}
         Check.due("12: a triangle", with(c(1, 2), c(2, 3), c(3, 1)).depth(), 3);
     }
