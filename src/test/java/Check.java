@@ -1,10 +1,29 @@
 /** Collects the answers that are not as due, and ends the program with 1 if there was one. */
 final class Check {
-    private static final int SHOWN = 50;
+    /** So many complaints are shown for each sentence, or in all where there are no sentences. */
+    private static final int SHOWN = 20;
     private static int asked = 0;
     private static int wrong = 0;
+    private static int shown = 0;
+    private static String sentence = "";
+    private static int askedBefore = 0;
 
     private Check() {
+    }
+
+    /** The answers that follow are due by these words of a promise, or of the description (0). */
+    static void sentence(int promise, String words) {
+        endSentence();
+        shown = 0;
+        sentence = promise + " \"" + words + "\": ";
+        that("the document says so", Document.says(promise, words));
+        askedBefore = asked;
+    }
+
+    private static void endSentence() {
+        if (!sentence.isEmpty()) {
+            that("the sentence has a test", asked > askedBefore);
+        }
     }
 
     static void due(String call, long got, long want) {
@@ -23,12 +42,14 @@ final class Check {
 
     private static void complain(String text) {
         wrong++;
-        if (wrong <= SHOWN) {
-            System.out.println(text);
+        shown++;
+        if (shown <= SHOWN) {
+            System.out.println(sentence + text);
         }
     }
 
     static void finish() {
+        endSentence();
         System.out.println(asked + " answers, " + wrong + " wrong");
         System.exit(wrong == 0 && asked > 0 ? 0 : 1);
     }
