@@ -13,34 +13,19 @@ public final class AnswerSentencesTest {
     }
 
     public static void main(String[] args) {
-        nodes();
-        decisionNodes();
-        andNodes();
-        largestGraph();
-        depth();
-        rootVariableOfADecision();
-        rootVariableOfOtherNodes();
-        componentsOfAnAndNode();
-        componentsOfOtherNodes();
-        models();
-        modelsWith();
-        modelsWithRange();
-        weightedCount();
-        share();
-        shareBits();
-        impliedInEveryModel();
-        implied();
-        impliedWithoutAModel();
-        impliedRange();
-        leastModel();
-        leastModelNone();
-        explanationIndex();
-        explanationSize();
-        explanationLiterals();
-        explanationRange();
-        explanationLiteralsAreNoErrors();
-        explanationErrorAlone();
-        explanationIsOfNow();
+        Check.all(AnswerSentencesTest::nodes, AnswerSentencesTest::decisionNodes, AnswerSentencesTest::andNodes,
+                AnswerSentencesTest::largestGraph, AnswerSentencesTest::depth,
+                AnswerSentencesTest::rootVariableOfADecision, AnswerSentencesTest::rootVariableOfOtherNodes,
+                AnswerSentencesTest::componentsOfAnAndNode, AnswerSentencesTest::componentsOfOtherNodes,
+                AnswerSentencesTest::models, AnswerSentencesTest::modelsWith, AnswerSentencesTest::modelsWithRange,
+                AnswerSentencesTest::weightedCount, AnswerSentencesTest::share, AnswerSentencesTest::shareBits,
+                AnswerSentencesTest::impliedInEveryModel, AnswerSentencesTest::implied,
+                AnswerSentencesTest::impliedWithoutAModel, AnswerSentencesTest::impliedRange,
+                AnswerSentencesTest::leastModel, AnswerSentencesTest::leastModelNone,
+                AnswerSentencesTest::explanationIndex, AnswerSentencesTest::explanationSize,
+                AnswerSentencesTest::explanationLiterals, AnswerSentencesTest::explanationRange,
+                AnswerSentencesTest::explanationLiteralsAreNoErrors, AnswerSentencesTest::explanationErrorAlone,
+                AnswerSentencesTest::explanationIsOfNow);
         Check.finish();
     }
 
@@ -69,6 +54,17 @@ public final class AnswerSentencesTest {
         Check.due("{2 3} is one", Make.with(c(1, 2, 3), c(-1, 2, 3)).nodes(), 5);
         Check.due("two different FALSE nodes", Make.with(c(1), c(1, 5), c(-1), c(-1, 6)).nodes(), 2);
         Check.due("AND, ten units, TRUE, FALSE", tenUnits().nodes(), 13);
+        // a graph without a TRUE node, and one without a FALSE node, on an object that had both
+        CnfCompiler x = Make.with(c(1), c(-1), c(2), c(9, 10));
+        Check.due("AND, {1}{-1}, {2}, {9 10}, {10}, TRUE, FALSE", x.nodes(), 7);
+        x.removeClause(3);
+        x.addClause(-2, 0, 0, 0);
+        Check.due("AND, {1}{-1}, {2}{-2}, FALSE", x.nodes(), 4);
+        x.removeClause(1);
+        x.removeClause(1);
+        x.removeClause(1);
+        x.assume(1);
+        Check.due("TRUE alone", x.nodes(), 1);
     }
 
     private static void decisionNodes() {
@@ -167,6 +163,8 @@ public final class AnswerSentencesTest {
         Check.due("and the last two", x.components(), 3);
         x.addClause(4, 5, 8, 9);
         Check.due("all joined", x.components(), 1);
+        x.removeClause(13);
+        Check.due("three again", x.components(), 3);
         Check.due("children, not clauses", Make.with(c(1, 2), c(2, 3), c(4, 5), c(4)).components(), 2);
     }
 

@@ -6,34 +6,20 @@ public final class ChangeSentencesTest {
     }
 
     public static void main(String[] args) {
-        newObject();
-        addClauseAppends();
-        addClauseTakesZeros();
-        addClauseNumber();
-        addClauseRange();
-        addClauseRangeFirst();
-        addClauseConflict();
-        addClauseConflictSecond();
-        addClauseFull();
-        removeClauseMovesDown();
-        removeClauseUndo();
-        removeClauseRemaining();
-        removeClauseRange();
-        clauses();
-        clauseSize();
-        clauseSizeRange();
-        assumeAdds();
-        assumeUndo();
-        assumeRange();
-        assumeConflict();
-        retractAll();
-        retractAllUndo();
-        retractAllCount();
-        setWeight();
-        setWeightUndo();
-        setWeightPrevious();
-        setWeightRange();
-        weightRange();
+        Check.all(ChangeSentencesTest::newObject, ChangeSentencesTest::addClauseAppends,
+                ChangeSentencesTest::addClauseTakesZeros, ChangeSentencesTest::addClauseNumber,
+                ChangeSentencesTest::addClauseRange, ChangeSentencesTest::addClauseRangeFirst,
+                ChangeSentencesTest::addClauseConflict, ChangeSentencesTest::addClauseConflictSecond,
+                ChangeSentencesTest::addClauseFull, ChangeSentencesTest::removeClauseMovesDown,
+                ChangeSentencesTest::removeClauseUndo, ChangeSentencesTest::removeClauseRemaining,
+                ChangeSentencesTest::removeClauseRange, ChangeSentencesTest::clauses,
+                ChangeSentencesTest::clauseSize, ChangeSentencesTest::clauseSizeRange,
+                ChangeSentencesTest::assumeAdds, ChangeSentencesTest::assumeUndo, ChangeSentencesTest::assumeRange,
+                ChangeSentencesTest::assumeConflict, ChangeSentencesTest::retractAll,
+                ChangeSentencesTest::retractAllUndo, ChangeSentencesTest::retractAllCount,
+                ChangeSentencesTest::setWeight, ChangeSentencesTest::setWeightUndo,
+                ChangeSentencesTest::setWeightPrevious, ChangeSentencesTest::setWeightRange,
+                ChangeSentencesTest::weightRange);
         Check.finish();
     }
 
@@ -67,6 +53,9 @@ public final class ChangeSentencesTest {
         Check.that("as new as any", new CnfCompiler().digest() == new CnfCompiler().digest());
         Check.due("clauses() of a new one", new CnfCompiler().clauses(), 0);
         Check.due("clauses() of the used one", used.clauses(), 2);
+        Check.due("its weight of 4", used.setWeight(4, 5), 0);
+        Check.due("its text", used.clearText(), 1);
+        Check.due("its assumption", used.retractAll(), 1);
     }
 
     // ---- addClause

@@ -11,6 +11,18 @@ final class Check {
     private Check() {
     }
 
+    /** Runs the tests; one that throws has failed, and the others run all the same. */
+    static void all(Runnable... tests) {
+        for (Runnable test : tests) {
+            try {
+                test.run();
+            } catch (RuntimeException e) {
+                asked++;
+                complain("threw " + e);
+            }
+        }
+    }
+
     /** The answers that follow are due by these words of a promise, or of the description (0). */
     static void sentence(int promise, String words) {
         endSentence();

@@ -4,32 +4,18 @@ public final class FormulaSentencesTest {
     }
 
     public static void main(String[] args) {
-        calls512();
-        tenVariables();
-        literals();
-        signs();
-        clauseSizes();
-        satisfiedClauses();
-        sixteenClauses();
-        equalClauses();
-        models();
-        assumptions();
-        modelsUnderAssumptions();
-        clausesThatAreRemoved();
-        literalsThatAreRemoved();
-        clausesThatBecomeEqual();
-        clausesThatBecomeEmpty();
-        initialResidualFormula();
-        equalResidualFormulas();
-        root();
-        falseNodes();
-        falseNodesAreOne();
-        trueNode();
-        connectedClauses();
-        andNodes();
-        variableOfADecision();
-        bothChildren();
-        depths();
+        Check.all(FormulaSentencesTest::calls512, FormulaSentencesTest::tenVariables, FormulaSentencesTest::literals,
+                FormulaSentencesTest::signs, FormulaSentencesTest::clauseSizes,
+                FormulaSentencesTest::satisfiedClauses, FormulaSentencesTest::sixteenClauses,
+                FormulaSentencesTest::equalClauses, FormulaSentencesTest::models, FormulaSentencesTest::assumptions,
+                FormulaSentencesTest::modelsUnderAssumptions, FormulaSentencesTest::clausesThatAreRemoved,
+                FormulaSentencesTest::literalsThatAreRemoved, FormulaSentencesTest::clausesThatBecomeEqual,
+                FormulaSentencesTest::clausesThatBecomeEmpty, FormulaSentencesTest::initialResidualFormula,
+                FormulaSentencesTest::equalResidualFormulas, FormulaSentencesTest::root,
+                FormulaSentencesTest::falseNodes, FormulaSentencesTest::falseNodesAreOne,
+                FormulaSentencesTest::trueNode, FormulaSentencesTest::connectedClauses,
+                FormulaSentencesTest::andNodes, FormulaSentencesTest::variableOfADecision,
+                FormulaSentencesTest::bothChildren, FormulaSentencesTest::depths);
         Check.finish();
     }
 
@@ -302,7 +288,13 @@ public final class FormulaSentencesTest {
         Check.due("root, {2}, {9 10}, {10}", part.decisionNodes(), 4);
         Check.due("with {2}{9 10}, TRUE, FALSE", part.nodes(), 7);
         // formulas that differ in a sign alone are different nodes
-        Check.due("root, {2}, {-2}, TRUE, FALSE", Make.with(c(1, 2), c(-1, -2)).nodes(), 5);
+        for (int v = 2; v <= 10; v++) {
+            Check.due("root, {v}, {-v}, TRUE, FALSE", Make.with(c(1, v), c(-1, -v)).nodes(), 5);
+            for (int w = v + 1; w <= 10; w++) {
+                Check.due("root, {v w}, {-v w}, {w}, TRUE, FALSE", Make.with(c(1, v, w), c(-1, -v, w)).nodes(), 6);
+                Check.due("with {-w}", Make.with(c(1, v, w), c(-1, v, -w)).nodes(), 7);
+            }
+        }
     }
 
     private static void root() {
@@ -362,12 +354,18 @@ public final class FormulaSentencesTest {
                 + " clauses of the residual formula.");
         Check.due("directly", Make.with(c(1, 2), c(2, 3)).components(), 1);
         Check.due("by opposite literals", Make.with(c(1, 2), c(-2, 3)).components(), 1);
+        Check.due("by opposite literals: andNodes()", Make.with(c(1, 2), c(-2, 3)).andNodes(), 0);
         Check.due("through a later clause", Make.with(c(1, 2), c(3, 4), c(2, 3)).components(), 1);
         Check.due("not at all", Make.with(c(1, 2), c(3, 4)).components(), 2);
         CnfCompiler chain = Make.with(c(1, 2), c(9, 10), c(3, 4), c(7, 8), c(5, 6), c(8, 9), c(2, 3), c(6, 7), c(4, 5));
         Check.due("through all nine", chain.components(), 1);
         Check.due("removeClause(4)", chain.removeClause(4), 8);
         Check.due("without {5 6}", chain.components(), 2);
+        // from 1 to 10, and from there down to 2
+        CnfCompiler back = Make.with(c(1), c(1, -10), c(10, 9), c(9, 8), c(8, 7), c(7, 6), c(6, 5), c(5, 4), c(4, 3),
+                c(3, 2));
+        Check.due("back through all ten: components()", back.components(), 1);
+        Check.due("back through all ten: rootVariable()", back.rootVariable(), 1);
         // an assumption takes the common variable out
         Check.due("2 is set", Make.assuming(Make.with(c(1, 2), c(2, 3)), -2).components(), 2);
     }
@@ -435,5 +433,6 @@ public final class FormulaSentencesTest {
         CnfCompiler chain = Make.with(c(1), c(-1, 2), c(-2, 3), c(-3, 4), c(-4, 5), c(-5, 6), c(-6, 7), c(-7, 8),
                 c(-8, 9), c(-9, 10));
         Check.due("a decision on each variable", chain.depth(), 10);
+        Check.due("with TRUE and FALSE below the tenth", chain.nodes(), 12);
     }
 }

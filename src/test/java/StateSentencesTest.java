@@ -9,26 +9,16 @@ public final class StateSentencesTest {
     }
 
     public static void main(String[] args) {
-        weights();
-        weightOfAModel();
-        weightedCounts();
-        atMostThreeLiterals();
-        notTheVariableItself();
-        noAssumedVariable();
-        atLeastOneModel();
-        inEachSuchModel();
-        leastNumber();
-        firstOfSeveral();
-        codes();
-        savedEvenIfNothingChanges();
-        onlySuccessfulCallsAreSaved();
-        onlyUndoableCallsAreSaved();
-        atMostFiveStates();
-        whatIsSaved();
-        refusedCallsChangeNothing();
-        refusedCallsOfFullObjects();
-        refusedCallsAreCounted();
-        constants();
+        Check.all(StateSentencesTest::weights, StateSentencesTest::weightOfAModel,
+                StateSentencesTest::weightedCounts, StateSentencesTest::atMostThreeLiterals,
+                StateSentencesTest::notTheVariableItself, StateSentencesTest::noAssumedVariable,
+                StateSentencesTest::atLeastOneModel, StateSentencesTest::inEachSuchModel,
+                StateSentencesTest::leastNumber, StateSentencesTest::firstOfSeveral, StateSentencesTest::codes,
+                StateSentencesTest::savedEvenIfNothingChanges, StateSentencesTest::onlySuccessfulCallsAreSaved,
+                StateSentencesTest::onlyUndoableCallsAreSaved, StateSentencesTest::atMostFiveStates,
+                StateSentencesTest::whatIsSaved, StateSentencesTest::refusedCallsChangeNothing,
+                StateSentencesTest::refusedCallsOfFullObjects, StateSentencesTest::refusedCallsAreCounted,
+                StateSentencesTest::constants);
         Check.finish();
     }
 
@@ -168,6 +158,8 @@ public final class StateSentencesTest {
         explained("now without 2", x, 10, 1, 1);
         x.addClause(1, 10, 0, 0);
         explained("now in every model", x, 10, 0);
+        explained("the variables that come last", Make.with(c(1, 7, 8, 9)), 1, 3, -7, -8, -9);
+        explained("the variables on both ends", Make.with(c(1, 2, 6, 10)), 6, 3, -1, -2, -10);
     }
 
     private static void leastNumber() {

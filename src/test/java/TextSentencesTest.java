@@ -4,24 +4,15 @@ public final class TextSentencesTest {
     }
 
     public static void main(String[] args) {
-        atMost150Bytes();
-        clausesEndWithASemicolon();
-        oneToFourLiterals();
-        numbersAndSigns();
-        spaces();
-        requiredSpaces();
-        noClauses();
-        firstByteThatCannotStand();
-        eachByteAfterEachBeginning();
-        textsThatEndTooEarly();
-        threeDigits();
-        rangeOfShortNumbersOnly();
-        zeroAndGreaterThanTen();
-        variableOccursAlready();
-        fifthLiteral();
-        seventeenthClause();
-        foundBeforeTheNumber();
-        foundAfterTheNumber();
+        Check.all(TextSentencesTest::atMost150Bytes, TextSentencesTest::clausesEndWithASemicolon,
+                TextSentencesTest::oneToFourLiterals, TextSentencesTest::numbersAndSigns, TextSentencesTest::spaces,
+                TextSentencesTest::requiredSpaces, TextSentencesTest::noClauses,
+                TextSentencesTest::firstByteThatCannotStand, TextSentencesTest::eachByteAfterEachBeginning,
+                TextSentencesTest::textsThatEndTooEarly, TextSentencesTest::threeDigits,
+                TextSentencesTest::rangeOfShortNumbersOnly, TextSentencesTest::zeroAndGreaterThanTen,
+                TextSentencesTest::variableOccursAlready, TextSentencesTest::fifthLiteral,
+                TextSentencesTest::seventeenthClause, TextSentencesTest::foundBeforeTheNumber,
+                TextSentencesTest::foundAfterTheNumber);
         Check.finish();
     }
 

@@ -9,33 +9,19 @@ public final class UndoSentencesTest {
     }
 
     public static void main(String[] args) {
-        appendAdds();
-        appendBytes();
-        appendLength();
-        appendRange();
-        appendRangeFirst();
-        appendFull();
-        clearTextEmpties();
-        clearTextLength();
-        parseAppends();
-        parseLeavesTheText();
-        parseIsOneState();
-        parseCount();
-        parseErrorPosition();
-        parseErrorChangesNothing();
-        undoRestores();
-        undoRemaining();
-        undoNothingSaved();
-        errorCountCounts();
-        errorCountOfExplanation();
-        errorCountRange();
-        errorCountCountsItself();
-        digestOfCounters();
-        digestOfEachPart();
-        digestOfSizes();
-        digestOfWeights();
-        digestOfSavedStates();
-        digestOverflow();
+        Check.all(UndoSentencesTest::appendAdds, UndoSentencesTest::appendBytes, UndoSentencesTest::appendLength,
+                UndoSentencesTest::appendRange, UndoSentencesTest::appendRangeFirst, UndoSentencesTest::appendFull,
+                UndoSentencesTest::clearTextEmpties, UndoSentencesTest::clearTextLength,
+                UndoSentencesTest::parseAppends, UndoSentencesTest::parseLeavesTheText,
+                UndoSentencesTest::parseIsOneState, UndoSentencesTest::parseCount,
+                UndoSentencesTest::parseErrorPosition, UndoSentencesTest::parseErrorChangesNothing,
+                UndoSentencesTest::undoRestores, UndoSentencesTest::undoRemaining,
+                UndoSentencesTest::undoNothingSaved, UndoSentencesTest::errorCountCounts,
+                UndoSentencesTest::errorCountOfExplanation, UndoSentencesTest::errorCountRange,
+                UndoSentencesTest::errorCountCountsItself, UndoSentencesTest::digestOfCounters,
+                UndoSentencesTest::digestOfEachPart, UndoSentencesTest::digestOfSizes,
+                UndoSentencesTest::digestOfWeights, UndoSentencesTest::digestOfSavedStates,
+                UndoSentencesTest::digestOverflow);
         Check.finish();
     }
 
