@@ -165,6 +165,10 @@ public final class AnswerSentencesTest {
         Check.due("all joined", x.components(), 1);
         x.removeClause(13);
         Check.due("three again", x.components(), 3);
+        CnfCompiler parted = Make.with(c(1), c(2), c(1, 2));
+        Check.due("joined by {1 2}", parted.components(), 1);
+        parted.removeClause(2);
+        Check.due("without {1 2}", parted.components(), 2);
         Check.due("children, not clauses", Make.with(c(1, 2), c(2, 3), c(4, 5), c(4)).components(), 2);
     }
 
